@@ -149,6 +149,9 @@ public final class LoadTest {
         for (int k = -1; k < 5; k++) {
             Due.is("steep: knee(" + k + ")", steep.knee(k), steepDue[k + 1]);
         }
+        StackedLeaves near = Due.told("l1 1 1 99;l1 1 0 99;");
+        Due.is("near: knee(-1)", near.knee(-1), 1);
+        Due.is("near: knee(0)", near.knee(0), 1);
         Due.is("one leaf", new StackedLeaves().knee(-1), 0);
         Due.is("one leaf", new StackedLeaves().knee(0), Due.NONE);
         x.loads(999);
@@ -197,6 +200,11 @@ public final class LoadTest {
         chosenIs(gaps, 99, 99, 1);
         chosenIs(gaps, 100, 99, 3);
         chosenIs(gaps, 100, 36, 5);
+        StackedLeaves eight = Due.told("l9 9 30 99;".repeat(8));
+        chosenIs(eight, 693, 11, 127);
+        chosenIs(eight, 792, 11, 255);
+        chosenIs(eight, 792, 10, Due.NONE);
+        chosenIs(eight, 793, 99, Due.NONE);
     }
 
     private static void nothingIsChanged() {

@@ -81,6 +81,7 @@ public final class TextTest {
         x.type(';');
         Due.is("tells()", x.tells(), 1);
         Due.same("tells()", Due.state(x), "3 1 2 3 1 ; ");
+        Due.is("whole", x.count(1), 1);
         Due.is("SEEN is gone", x.count(5), 0);
         Due.is("IMAGE 0 is gone", x.back(0), Due.STATE);
         Due.is("IMAGE 1 is gone", x.back(1), Due.STATE);
@@ -134,6 +135,13 @@ public final class TextTest {
         Due.is("no ;, blanks", Due.tellsOf("l1 1 1 1  "), -20);
         Due.is("a second one", Due.tellsOf("l1 1 1 1;l"), -20);
         Due.is("100 blanks", Due.tellsOf(" ".repeat(100)), -110);
+        Due.is("a figure at the very end", Due.tellsOf("l" + " ".repeat(98) + "1"), -110);
+        Due.is("figures alone", Due.tellsOf("l" + "1".repeat(99)), -11);
+        StackedLeaves x = new StackedLeaves();
+        Due.type(x, "l999");
+        x.clear();
+        Due.type(x, "l9");
+        Due.is("what was cleared is not read", x.tells(), -12);
     }
 
     private static void eightLeavesAtMost() {

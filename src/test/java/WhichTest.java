@@ -113,6 +113,12 @@ public final class WhichTest {
         Due.is("far: ask()", far.ask(), 40);
         StackedLeaves equal = Due.told("l1 9 0 1;l1 9 0 1;");
         Due.is("equal: ask()", equal.ask(), 10);
+        // by 290 both all leaves and those without leaf 2 bend by 24, by 300 by 24 and 25
+        Due.is("the last load: ask()", Due.told("l9 5 8 99;l9 7 29 99;l9 2 5 99;").ask(), 300);
+        // eight of the nine always bend alike; the ninth, none broken, bends otherwise by 70: 70 / 72 is 0, 70 / 63 is 1
+        StackedLeaves eight = Due.told("l9 9 30 99;".repeat(8));
+        Due.is("eight: which(0)", eight.which(0), 9);
+        Due.is("eight: ask()", eight.ask(), 70);
     }
 
     private static void keepAndBack() {
