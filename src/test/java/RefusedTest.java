@@ -175,6 +175,9 @@ public final class RefusedTest {
         for (int c : Due.outside(0, 30)) {
             calls.add(new Call("cambers(0, " + c + ")", x -> x.cambers(0, c), Due.BAD));
         }
+        for (int d : Due.outside(0, 99)) {
+            calls.add(new Call("chosen(9, " + d + ", 0)", x -> x.chosen(9, d, 0), Due.BAD));
+        }
         for (int n : Due.outside(0, 9999)) {
             calls.add(new Call("sees(0, " + n + ")", x -> x.sees(0, n), Due.BAD));
         }
