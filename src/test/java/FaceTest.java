@@ -1,13 +1,15 @@
-import java.io.IOException;
 import java.lang.reflect.Constructor;
 import java.lang.reflect.Field;
 import java.lang.reflect.Method;
 import java.lang.reflect.Modifier;
 import java.nio.file.Files;
 import java.nio.file.Path;
+import java.util.Arrays;
 import java.util.Set;
 import java.util.TreeSet;
+import java.util.regex.Matcher;
 import java.util.regex.Pattern;
+import java.util.stream.Stream;
 
 /** The public face, and those rules of LANGUAGE.md that a program can look at. Runs in the project's directory. */
 public final class FaceTest {
@@ -20,12 +22,25 @@ public final class FaceTest {
         "\\bthrow\\b", "\\bthrows\\b", "\\btry\\b", "\\bcatch\\b", "\\bsynchronized\\b", "\\bassert\\b", "->", "::", "\\bimport\\b",
         "\\bpackage\\b", "\\w+Exact\\b", "\\bprotected\\b", "\\bSystem\\.(?!arraycopy)", "\\bnative\\b", "\\bvolatile\\b"};
 
+    /** What rule 4 leaves of the library, as far as the program uses it. */
+    private static final Set<String> LIBRARY = Set.of("Integer.bitCount", "Math.max", "Math.min", "System.arraycopy");
+    private static final Pattern LIBRARY_CALL = Pattern.compile("\\b([A-Z]\\w*\\.[a-z]\\w*)\\(");
+    /** A statement has a blank ahead of its bracket, a method has none. */
+    private static final Pattern METHOD_HEAD = Pattern.compile("^( +)(?:[\\w\\[\\]]+ )*(\\w+)\\([^()]*\\) \\{$");
+    private static final int LONGEST_METHOD = 60, MOST_PARAMETERS = 7, MOST_FIELDS = 20;
+
     public static void main(String[] args) throws Exception {
         theClass();
         methods();
         constants();
         classesInside();
-        source();
+        sizes();
+        String source = Files.readString(Path.of("src/main/java/StackedLeaves.java"));
+        signs(source);
+        String code = source.replaceAll("(?s)/\\*.*?\\*/", "").replaceAll("//.*", "");
+        forbiddenWords(code);
+        library(code);
+        methodsOfTheSource(code);
         Due.end();
     }
 
@@ -91,15 +106,67 @@ public final class FaceTest {
         }
     }
 
-    private static void source() throws IOException {
-        String source = Files.readString(Path.of("src/main/java/StackedLeaves.java"));
-        String code = source.replaceAll("(?s)/\\*.*?\\*/", "").replaceAll("//.*", "");
+    /** Rule 11, and that no class but the outermost makes classes inside. */
+    private static void sizes() {
+        sizeOf(StackedLeaves.class);
+        for (Class<?> c : StackedLeaves.class.getDeclaredClasses()) {
+            sizeOf(c);
+            Due.is("classes inside " + c, c.getDeclaredClasses().length, 0);
+        }
+    }
+
+    private static void sizeOf(Class<?> c) {
+        for (Method m : c.getDeclaredMethods()) {
+            Due.is(m + " takes few parameters", m.getParameterCount() <= MOST_PARAMETERS ? 1 : 0, 1);
+        }
+        long fields = Stream.of(c.getDeclaredFields()).filter(f -> !Modifier.isStatic(f.getModifiers())).count();
+        Due.is(c + " has few fields", fields <= MOST_FIELDS ? 1 : 0, 1);
+    }
+
+    private static void signs(String source) {
+        for (int i = 0; i < source.length(); i++) {
+            Due.is("a sign beyond 127 at " + i, source.charAt(i) < 127 ? 1 : 0, 1);
+        }
+    }
+
+    private static void forbiddenWords(String code) {
         for (String forbidden : FORBIDDEN) {
             Due.is(forbidden + " in the source", Pattern.compile(forbidden).matcher(code).find() ? 1 : 0, 0);
         }
-        for (int i = 0; i < source.length(); i++) {
-            char c = source.charAt(i);
-            Due.is("a sign beyond 127 at " + i, c < 127 ? 1 : 0, 1);
+    }
+
+    private static void library(String code) {
+        for (Matcher call = LIBRARY_CALL.matcher(code); call.find();) {
+            Due.is(call.group(1) + " is of the library that is left", LIBRARY.contains(call.group(1)) ? 1 : 0, 1);
         }
+    }
+
+    /** Methods stay short, and none but a constructor makes an object or an array: the room of a run is not used up by calls. */
+    private static void methodsOfTheSource(String code) {
+        String[] lines = code.split("\n");
+        int found = 0;
+        for (int i = 0; i < lines.length; i++) {
+            Matcher head = METHOD_HEAD.matcher(lines[i]);
+            if (!head.find()) {
+                continue;
+            }
+            String name = head.group(2);
+            int end = Arrays.asList(lines).subList(i, lines.length).indexOf(head.group(1) + "}");
+            Due.is(name + "() is short", end >= 0 && end < LONGEST_METHOD ? 1 : 0, 1);
+            if (Character.isLowerCase(name.charAt(0))) {
+                found++;
+                String body = String.join("\n", Arrays.asList(lines).subList(i, i + Math.max(0, end)));
+                Due.is(name + "() makes an object", Pattern.compile("\\bnew\\b").matcher(body).find() ? 1 : 0, 0);
+            }
+        }
+        Due.is("methods found in the source", found, methodsOfTheClasses());
+    }
+
+    private static int methodsOfTheClasses() {
+        int methods = StackedLeaves.class.getDeclaredMethods().length;
+        for (Class<?> c : StackedLeaves.class.getDeclaredClasses()) {
+            methods += c.getDeclaredMethods().length;
+        }
+        return methods;
     }
 }
